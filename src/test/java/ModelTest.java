@@ -9,7 +9,8 @@ import java.util.TreeMap;
 /** Random runs of the store beside a second program that is written straight along the document. */
 public final class ModelTest {
     private static final int RUNS = 4000;
-    private static final int STEPS = 200;
+    private static final int STEPS = 180;
+    private static final int ROUNDS_BEFORE = 14;
 
     public static void main(String[] args) {
         for (int seed = 1; seed <= RUNS; seed++) {
@@ -39,6 +40,9 @@ public final class ModelTest {
         }
 
         void go() {
+            if (seed % 5 == 0) {
+                almostFillKey0();
+            }
             for (int step = 0; step < STEPS; step++) {
                 int before = model.wrongs;
                 change(step);
@@ -52,6 +56,16 @@ public final class ModelTest {
                 same("state(" + i + ")", store.state(i), model.state(i));
                 same("stamp(" + i + ")", store.stamp(i), model.stamp(i));
                 same("versions(" + i + ")", store.versions(i), model.versions(i));
+            }
+        }
+
+        /** Else a run is too short for a key to get its 16 versions. */
+        private void almostFillKey0() {
+            for (int i = 0; i < ROUNDS_BEFORE; i++) {
+                same("begin(1)", store.begin(1), model.begin(1));
+                same("write(0, 0, i)", store.write(0, 0, i), model.write(0, 0, i));
+                same("commit(0)", store.commit(0), model.commit(0));
+                same("clean(0)", store.clean(0), model.clean(0));
             }
         }
 

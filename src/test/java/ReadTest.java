@@ -8,6 +8,7 @@ public final class ReadTest {
         pushesTheOneInTheWay();
         restartsBehindMissedVersions();
         raisesTheReadMark();
+        leavesTheWriteStampOut();
         Checks.end();
     }
 
@@ -287,6 +288,42 @@ public final class ReadTest {
             write(0, 3, 6) = 0
             commit(0) = 0
             committed(1) = 5W+2
+            """);
+    }
+
+    /** Slot 0's write stamp is far above its read stamp, and must not take its place. */
+    private static void leavesTheWriteStampOut() {
+        Checks.run("promise 6: the one in the way and the read mark go by the read stamp", """
+            begin(0) = 0
+            tick(1, 5) = 0
+            begin(1) = 1
+            read(1, 8) = 0
+            write(0, 8, 1) = 0
+            begin(2) = 2
+            begin(3) = 3
+            write(2, 6, 5) = 0
+            read(0, 6) = 0
+            commit(2) = 0
+            committed(0) = 2
+            read(0, 7) = 0
+            write(3, 7, 1) = 0
+            commit(3) = 0
+            committed(1) = 2
+            """);
+        Checks.run("promise 6: the value goes by the read stamp", """
+            begin(0) = 0
+            tickAll(11)
+            begin(1) = 1
+            write(1, 2, 7) = 0
+            commit(1) = 0
+            begin(1) = 2
+            read(2, 8) = 0
+            write(0, 8, 1) = 0
+            read(0, 2) = 0
+            stamp(0) = 1
+            versions(2) = 1
+            commit(0) = 1
+            read(0, 2) = 7
             """);
     }
 }
