@@ -64,7 +64,7 @@ public final class ReadTest {
             clock(2) = 0
             clock(3) = 0
             """);
-        Checks.run("promise 6: the way back is gone after a restart and after an own intent too", """
+        Checks.run("promise 6: the gateway hears back after a restart and after an own intent too", """
             begin(0) = 0
             write(0, 2, 5) = 0
             clock(0) = 4

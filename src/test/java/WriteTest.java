@@ -93,7 +93,7 @@ public final class WriteTest {
     }
 
     private static void anEarlierOneInTheWay() {
-        Checks.run("promise 7: one that began before stays, and the way back is gone too", """
+        Checks.run("promise 7: one that began before stays, and the gateway hears back all the same", """
             begin(0) = 0
             begin(3) = 1
             write(0, 5, 1) = 0
