@@ -1,5 +1,7 @@
 import java.util.ArrayList;
+import java.util.LinkedHashMap;
 import java.util.List;
+import java.util.Map;
 
 /** Runs scripts of calls on fresh stores and counts the answers that are not the due ones. */
 final class Checks {
@@ -21,10 +23,12 @@ final class Checks {
     /**
      * A script has a call a line, "write(0, 3, -7) = 0". In numbers, 5W is 5 * 1048576 (a wall part),
      * C is 4294967296 (the base of read's codes), MAX and MIN are the greatest and the least int.
-     * The line "tickAll(r)" brings all nodes to reading r in steps that are allowed.
+     * The line "tickAll(r)" brings all nodes to reading r in steps that are allowed. The line "remember()"
+     * asks for all that can be asked without a change, and "same()" finds all of it as it was then.
      */
     static void run(String title, String script) {
         HlcStore store = new HlcStore();
+        Map<String, Long> remembered = Map.of();
         int calls = 0;
         for (String line : script.split("\n")) {
             String row = line.trim();
@@ -33,6 +37,13 @@ final class Checks {
             }
             if (row.startsWith("tickAll(")) {
                 calls += tickAll(title, store, (int) arguments(row)[0]);
+            } else if (row.equals("remember()")) {
+                remembered = askAll(store);
+                calls += remembered.size();
+            } else if (row.equals("same()")) {
+                Map<String, Long> now = askAll(store);
+                calls += now.size();
+                remembered.forEach((call, answer) -> due(title + ": " + call + " again", now.get(call), answer));
             } else {
                 int equals = row.lastIndexOf('=');
                 String call = row.substring(0, equals).trim();
@@ -43,6 +54,12 @@ final class Checks {
         if (calls > MOST_CALLS) {
             throw new IllegalStateException(title + ": more calls than an object is used for");
         }
+    }
+
+    static void fail(String what) {
+        looked++;
+        wrong++;
+        System.out.println(what);
     }
 
     static void end() {
@@ -68,6 +85,25 @@ final class Checks {
             }
         }
         return calls;
+    }
+
+    private static Map<String, Long> askAll(HlcStore store) {
+        Map<String, Long> answers = new LinkedHashMap<>();
+        for (int node = 0; node < 4; node++) {
+            answers.put("reading(" + node + ")", (long) store.reading(node));
+            answers.put("clock(" + node + ")", store.clock(node));
+        }
+        for (int slot = 0; slot < 8; slot++) {
+            answers.put("state(" + slot + ")", (long) store.state(slot));
+            answers.put("stamp(" + slot + ")", store.stamp(slot));
+        }
+        for (int key = 0; key < 16; key++) {
+            answers.put("versions(" + key + ")", (long) store.versions(key));
+        }
+        for (int n = 0; n < 4; n++) {
+            answers.put("committed(" + n + ")", store.committed(n));
+        }
+        return answers;
     }
 
     private static long answer(HlcStore store, String call) {
