@@ -20,6 +20,7 @@ public final class CommitEdgeTest {
         saysTheState();
         saysHurt();
         stoppingCodesInTheirOrder();
+        eventAtTheGateway();
         writeStampAboveTheReadStamp();
         eachKeyFromTheLeast();
         messages();
@@ -95,6 +96,28 @@ public final class CommitEdgeTest {
             + "-1 slot not 0 .. 7, or key (of read, write) not 0 .. 15; -4 the slot is free; -6 aborted; -8 committed; 1 hurt";
         Quotes.term(8, sentence, "-6 before 1", SLOT_1_IS_HURT + "abort(1) = 0\n commit(1) = -6\n commit(1) = -6");
         Quotes.term(8, sentence, "-4 before 1", SLOT_1_IS_HURT + "abort(1) = 0\n clean(1) = 0\n commit(1) = -4");
+    }
+
+    private static void eventAtTheGateway() {
+        String sentence = "Else an event at the gateway g.";
+        Quotes.promise(8, sentence, "one that has done nothing", "begin(3) = 0\n clock(3) = 1\n commit(0) = 0\n clock(3) = 2");
+        Quotes.promise(8, sentence, "one that has read: no other clock", """
+            begin(3) = 0
+            read(0, 0) = 0
+            clock(3) = 4
+            clock(0) = 3
+            commit(0) = 0
+            clock(3) = 5
+            clock(0) = 3
+            """);
+        Quotes.promise(8, sentence, "its stamps stay behind that clock", """
+            begin(3) = 0
+            tick(3, 5) = 0
+            commit(0) = 0
+            clock(3) = 5W+1
+            stamp(0) = 1
+            committed(0) = 1
+            """);
     }
 
     private static void writeStampAboveTheReadStamp() {

@@ -8,6 +8,7 @@ public final class NodeEdgeTest {
         tickSaysMoreThan10Above();
         tickRefusesWithoutAChange();
         tickIsAnEvent();
+        readingsStayTogether();
         reading();
         clock();
         Checks.end();
@@ -204,6 +205,27 @@ public final class NodeEdgeTest {
             clock(0) = 3W
             tick(0, 3) = 0
             clock(0) = 3W+1
+            """);
+    }
+
+    private static void readingsStayTogether() {
+        Quotes.term(2, "the four may differ by at most 10 units", "10, and no more, whichever is the least", """
+            tick(0, 10) = 0
+            tick(1, 3) = 0
+            tick(2, 7) = 0
+            tick(0, 11) = -2
+            tick(3, 2) = 0
+            tick(0, 12) = 0
+            tick(0, 13) = -2
+            tick(3, 5) = 0
+            tick(0, 13) = 0
+            tick(0, 14) = -2
+            """);
+        Quotes.term(2, "A READING is what a physical clock shows, an int from 0 on.", "0 and below", """
+            tick(0, 0) = 0
+            reading(0) = 0
+            tick(0, -1) = -2
+            reading(0) = 0
             """);
     }
 

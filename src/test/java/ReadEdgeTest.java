@@ -6,6 +6,7 @@ public final class ReadEdgeTest {
         saysHurt();
         stoppingCodesInTheirOrder();
         messages();
+        messagesOfEveryAnswer();
         ownIntent();
         nobodyInTheWay();
         pushesTheOneInTheWay();
@@ -15,6 +16,7 @@ public final class ReadEdgeTest {
         readMark();
         hasReadTheKey();
         valueNotAboveTheReadStamp();
+        valueAboveTheReadStampAlone();
         zeroIfThereIsNone();
         Checks.end();
     }
@@ -108,6 +110,53 @@ public final class ReadEdgeTest {
             clock(2) = 5
             read(1, 2) = 0
             clock(2) = 10
+            """);
+    }
+
+    private static void messagesOfEveryAnswer() {
+        String sentence = "event at g; o takes in g's clock; what follows; g takes in o's clock.";
+        Quotes.promise(6, sentence, "the owner is ahead", """
+            tick(3, 2) = 0
+            begin(0) = 0
+            read(0, 3) = 0
+            clock(3) = 2W+1
+            clock(0) = 2W+2
+            """);
+        Quotes.promise(6, sentence, "the gateway is ahead", """
+            tick(0, 2) = 0
+            begin(0) = 0
+            read(0, 3) = 0
+            clock(3) = 2W+3
+            clock(0) = 2W+4
+            """);
+        Quotes.promise(6, sentence, "neither is ahead of its reading", """
+            begin(0) = 0
+            tick(0, 2) = 0
+            tick(3, 3) = 0
+            read(0, 3) = 0
+            clock(3) = 3W+1
+            clock(0) = 3W+2
+            """);
+        Quotes.promise(6, sentence, "the own intent's value is answered", """
+            begin(0) = 0
+            write(0, 3, 5) = 0
+            clock(0) = 4
+            read(0, 3) = 5
+            clock(3) = 6
+            clock(0) = 7
+            """);
+        Quotes.promise(6, sentence, "a restart is answered", """
+            begin(0) = 0
+            begin(1) = 1
+            begin(1) = 2
+            write(2, 3, 9) = 0
+            commit(2) = 0
+            clean(2) = 0
+            clock(0) = 1
+            clock(3) = 7
+            read(0, 3) = C+1
+            clock(3) = 8
+            clock(0) = 9
             """);
     }
 
@@ -211,18 +260,21 @@ public final class ReadEdgeTest {
             read(5, 2) = 0
             stamp(0) = 1
             """);
-        Quotes.promise(6, sentence, "also if then this one restarts", """
+        Quotes.promise(6, sentence, "above the read stamp, though not above the write stamp", """
             begin(0) = 0
             begin(1) = 1
             begin(1) = 2
-            write(2, 3, 9) = 0
-            commit(2) = 0
             begin(2) = 3
-            write(3, 3, 8) = 0
-            read(1, 3) = C+1
-            stamp(1) = 2
-            commit(3) = 0
-            committed(1) = 3
+            begin(2) = 4
+            begin(2) = 5
+            read(5, 8) = 0
+            write(0, 8, 1) = 0
+            write(2, 3, 5) = 0
+            read(0, 3) = 0
+            commit(2) = 0
+            committed(0) = 2
+            commit(0) = 1
+            stamp(0) = 4
             """);
     }
 
@@ -446,9 +498,38 @@ public final class ReadEdgeTest {
             """);
     }
 
+    /** The write stamp is above the version, which is above the limit and so was not missed. */
+    private static void valueAboveTheReadStampAlone() {
+        Quotes.promise(6, "the value of the version with the greatest stamp not above the read stamp",
+            "above the read stamp, though not above the write stamp", """
+            begin(0) = 0
+            write(0, 3, 10) = 0
+            commit(0) = 0
+            begin(0) = 1
+            tickAll(11)
+            begin(1) = 2
+            write(2, 3, 20) = 0
+            commit(2) = 0
+            clean(2) = 0
+            begin(1) = 2
+            read(2, 4) = 0
+            write(1, 4, 1) = 0
+            read(1, 3) = 10
+            commit(1) = 1
+            stamp(1) = 11W+9
+            """);
+    }
+
     private static void zeroIfThereIsNone() {
         String sentence = "0 if there is none";
-        Quotes.promise(6, sentence, "never written, every key", "begin(0) = 0\n" + Quotes.each(0, 15, "read(0, #) = 0"));
+        Quotes.promise(6, sentence, "no version, every key", "begin(0) = 0\n" + Quotes.each(0, 15, "read(0, #) = 0"));
+        Quotes.term(6, "A key never written holds 0.", "where all others have been written", "begin(0) = 0\n"
+            + Quotes.each(0, 8, "write(0, #, 7) = 0") + Quotes.each(10, 15, "write(0, #, 7) = 0") + """
+            commit(0) = 0
+            clean(0) = 0
+            begin(1) = 0
+            read(0, 9) = 0
+            """);
         Quotes.promise(6, sentence, "written by an aborted transaction", """
             begin(0) = 0
             write(0, 3, 9) = 0

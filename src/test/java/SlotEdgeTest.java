@@ -12,13 +12,16 @@ public final class SlotEdgeTest {
         beginSaysNoSuchNode();
         beginSaysNoFreeSlot();
         beginRefusesWithoutAChange();
+        beginIsAnEvent();
         beginTakesTheLeastFreeSlot();
+        beginSetsTheGateway();
         beginSetsLastBeat();
         beginSetsThePlace();
         beginSetsTheStamps();
         beginSetsTheLimit();
         beginForgetsTheSlotsPast();
         abortCodes();
+        abortIsForGood();
         abortLeavesIntents();
         heartbeatCodes();
         heartbeatSetsLastBeat();
@@ -71,6 +74,20 @@ public final class SlotEdgeTest {
             + "remember()\n begin(-1) = -1\n begin(4) = -1\n same()");
     }
 
+    private static void beginIsAnEvent() {
+        String sentence = "Else an event at the node";
+        Quotes.promise(5, sentence, "at this node alone, once", """
+            tick(1, 2) = 0
+            begin(1) = 0
+            clock(1) = 2W+1
+            begin(1) = 1
+            clock(1) = 2W+2
+            clock(0) = 0
+            clock(2) = 0
+            clock(3) = 0
+            """);
+    }
+
     private static void beginTakesTheLeastFreeSlot() {
         String sentence = "the least free slot gets a pending transaction";
         Quotes.promise(5, sentence, "from the least to the greatest",
@@ -87,6 +104,30 @@ public final class SlotEdgeTest {
             begin(1) = 3
             begin(1) = 6
             begin(1) = -3
+            """);
+    }
+
+    private static void beginSetsTheGateway() {
+        String sentence = "gateway this node";
+        Quotes.promise(5, sentence, "the least and the greatest", """
+            begin(0) = 0
+            begin(3) = 1
+            heartbeat(0) = 0
+            clock(0) = 2
+            clock(3) = 1
+            heartbeat(1) = 0
+            clock(0) = 2
+            clock(3) = 2
+            """);
+        Quotes.promise(5, sentence, "where the slot was used on another node before", """
+            begin(0) = 0
+            begin(0) = 1
+            abort(1) = 0
+            clean(1) = 0
+            begin(3) = 1
+            heartbeat(1) = 0
+            clock(0) = 2
+            clock(3) = 2
             """);
     }
 
@@ -109,15 +150,17 @@ public final class SlotEdgeTest {
             state(0) = 3
             """);
         Quotes.promise(5, sentence, "also where the slot was used before", """
+            tickAll(5)
             begin(0) = 0
-            abort(0) = 0
-            clean(0) = 0
-            tickAll(41)
-            begin(0) = 0
-            write(0, 1, 5) = 0
-            begin(1) = 1
-            read(1, 1) = 0
-            state(0) = 1
+            begin(0) = 1
+            abort(1) = 0
+            clean(1) = 0
+            tickAll(46)
+            begin(0) = 1
+            write(1, 1, 5) = 0
+            begin(1) = 2
+            read(2, 1) = 0
+            state(1) = 1
             """);
         Quotes.promise(5, sentence, "its reading, though its clock is ahead of that", """
             tickAll(30)
@@ -151,6 +194,19 @@ public final class SlotEdgeTest {
             begin(0) = 0
             write(1, 5, 1) = 0
             write(0, 5, 2) = -5
+            """);
+        Quotes.promise(5, sentence, "one that is used again and again is behind all others", """
+            begin(0) = 0
+            begin(0) = 1
+            abort(1) = 0
+            clean(1) = 0
+            begin(0) = 1
+            begin(0) = 2
+            abort(1) = 0
+            clean(1) = 0
+            begin(0) = 1
+            write(2, 5, 1) = 0
+            write(1, 5, 2) = -5
             """);
         Quotes.promise(5, sentence, "not the order of the stamps", """
             tick(0, 9) = 0
@@ -317,6 +373,23 @@ public final class SlotEdgeTest {
             versions(1) = 1
             """);
         Quotes.term(9, order, "a hurt one is aborted like others", SLOT_1_IS_HURT + "abort(1) = 0\n state(1) = 3");
+    }
+
+    private static void abortIsForGood() {
+        String sentence = "Else the transaction is aborted, 0.";
+        Quotes.promise(9, sentence, "one that has done nothing", "begin(2) = 0\n abort(0) = 0\n state(0) = 3\n clock(2) = 1");
+        Quotes.promise(9, sentence, "its slot is not free yet, and nothing of it is committed", """
+            begin(2) = 0
+            write(0, 3, 1) = 0
+            abort(0) = 0
+            begin(2) = 1
+            commit(0) = -6
+            committed(0) = -1
+            """);
+        Quotes.promise(9, sentence, "this one alone",
+            Quotes.each(0, 7, "begin(0) = #") + "abort(3) = 0\n state(2) = 1\n state(3) = 3\n state(4) = 1");
+        Quotes.promise(9, sentence, "one silent for more than 40, which nobody has looked at",
+            "begin(0) = 0\n write(0, 1, 5) = 0\n tickAll(41)\n abort(0) = 0");
     }
 
     private static void abortLeavesIntents() {
@@ -490,6 +563,22 @@ public final class SlotEdgeTest {
             clock(1) = 2W+5
             clock(2) = 2W+3
             """);
+        Quotes.promise(11, keys, "of this transaction: those of others stay, though they have ended too", """
+            begin(1) = 0
+            begin(2) = 1
+            begin(3) = 2
+            write(0, 4, 7) = 0
+            write(1, 5, 8) = 0
+            write(2, 6, 9) = 0
+            commit(0) = 0
+            abort(1) = 0
+            commit(2) = 0
+            clock(0) = 3
+            clean(2) = 0
+            versions(4) = 0
+            versions(6) = 1
+            clock(0) = 3
+            """);
         Quotes.promise(11, keys, "the least and the greatest key", """
             begin(1) = 0
             write(0, 0, 7) = 0
@@ -584,6 +673,9 @@ public final class SlotEdgeTest {
             abort(7) = 0
             state(7) = 3
             """);
+        Quotes.term(12, "A slot without one is free, state 0.", "in a new object, behind a clean, behind a refused begin",
+            Quotes.each(0, 7, "state(#) = 0") + "begin(4) = -1\n" + Quotes.each(0, 7, "state(#) = 0")
+            + "begin(0) = 0\n abort(0) = 0\n clean(0) = 0\n" + Quotes.each(0, 7, "state(#) = 0"));
         Quotes.promise(12, sentence, "asking changes nothing", "begin(0) = 0\n remember()\n same()");
     }
 

@@ -6,12 +6,6 @@ public final class WriteEdgeTest {
         write(1, 5, 1) = 0
         write(0, 5, 2) = 0
         """;
-    private static final String ONE_MORE_VERSION_OF_KEY_7 = """
-        begin(1) = 0
-        write(0, 7, 100) = 0
-        commit(0) = 0
-        clean(0) = 0
-        """;
 
     public static void main(String[] args) {
         saysNoSuchSlotOrKey();
@@ -19,8 +13,10 @@ public final class WriteEdgeTest {
         saysHurt();
         stoppingCodesInTheirOrder();
         messages();
+        messagesOfEveryAnswer();
         values();
         ownIntent();
+        newIntent();
         onlyOneIntent();
         anEarlierOneInTheWay();
         aLaterOneInTheWay();
@@ -31,6 +27,15 @@ public final class WriteEdgeTest {
         writeStampAndReadMark();
         writeStampAndVersions();
         Checks.end();
+    }
+
+    private static String versionsOfKey7(int count, int slot) {
+        return Quotes.times(count, """
+            begin(1) = #
+            write(#, 7, 100) = 0
+            commit(#) = 0
+            clean(#) = 0
+            """.replace("#", Integer.toString(slot)));
     }
 
     private static void saysNoSuchSlotOrKey() {
@@ -144,6 +149,58 @@ public final class WriteEdgeTest {
             """);
     }
 
+    private static void messagesOfEveryAnswer() {
+        String sentence = "event at g; o takes in g's clock; what follows; g takes in o's clock.";
+        Quotes.promise(7, sentence, "the owner is ahead", """
+            tick(3, 2) = 0
+            begin(0) = 0
+            write(0, 3, 1) = 0
+            clock(3) = 2W+1
+            clock(0) = 2W+2
+            """);
+        Quotes.promise(7, sentence, "the gateway is ahead", """
+            tick(0, 2) = 0
+            begin(0) = 0
+            write(0, 3, 1) = 0
+            clock(3) = 2W+3
+            clock(0) = 2W+4
+            """);
+        Quotes.promise(7, sentence, "neither is ahead of its reading", """
+            begin(0) = 0
+            tick(0, 2) = 0
+            tick(3, 3) = 0
+            write(0, 3, 1) = 0
+            clock(3) = 3W+1
+            clock(0) = 3W+2
+            """);
+        Quotes.promise(7, sentence, "an own intent is written again", """
+            begin(0) = 0
+            write(0, 3, 5) = 0
+            clock(0) = 4
+            write(0, 3, 6) = 0
+            clock(3) = 6
+            clock(0) = 7
+            """);
+        Quotes.promise(7, sentence, "-5", """
+            begin(0) = 0
+            begin(1) = 1
+            write(0, 3, 1) = 0
+            clock(3) = 3
+            write(1, 3, 2) = -5
+            clock(0) = 5
+            clock(3) = 6
+            clock(1) = 7
+            """);
+        Quotes.promise(7, sentence, "-7", versionsOfKey7(16, 0) + """
+            begin(1) = 0
+            clock(1) = 81
+            clock(3) = 81
+            write(0, 7, 1) = -7
+            clock(3) = 83
+            clock(1) = 84
+            """);
+    }
+
     private static void values() {
         String sentence = "values any int";
         for (String value : new String[] {"0", "-1", "MIN", "MAX", "MIN+1", "MAX-1"}) {
@@ -176,7 +233,7 @@ public final class WriteEdgeTest {
             read(0, 0) = 3
             read(0, 15) = 4
             """);
-        Quotes.promise(7, sentence, "where the key has 15 versions", Quotes.times(15, ONE_MORE_VERSION_OF_KEY_7) + """
+        Quotes.promise(7, sentence, "where the key has 15 versions", versionsOfKey7(15, 0) + """
             begin(1) = 0
             write(0, 7, 1) = 0
             write(0, 7, 2) = 0
@@ -202,6 +259,45 @@ public final class WriteEdgeTest {
             write(0, 3, 5) = 0
             commit(0) = 0
             committed(1) = 12
+            """);
+    }
+
+    private static void newIntent() {
+        String sentence = "the key has an intent of this transaction with the value; 0.";
+        Quotes.promise(7, sentence, "every key, the least and the greatest too", "begin(0) = 0\n"
+            + Quotes.each(0, 15, "write(0, #, 5#) = 0") + Quotes.each(0, 15, "read(0, #) = 5#"));
+        Quotes.promise(7, sentence, "in place of one that came to nothing", """
+            begin(0) = 0
+            begin(1) = 1
+            write(0, 15, 1) = 0
+            abort(0) = 0
+            write(1, 15, 2) = 0
+            read(1, 15) = 2
+            clean(0) = 0
+            read(1, 15) = 2
+            """);
+        Quotes.promise(7, sentence, "in place of one that has become a version", """
+            begin(0) = 0
+            begin(1) = 1
+            write(0, 15, 1) = 0
+            commit(0) = 0
+            write(1, 15, 2) = 0
+            versions(15) = 1
+            read(1, 15) = 2
+            clean(0) = 0
+            versions(15) = 1
+            read(1, 15) = 2
+            """);
+        Quotes.promise(7, sentence, "the key does not count as read", """
+            begin(0) = 0
+            begin(1) = 1
+            read(1, 6) = 0
+            write(0, 3, 1) = 0
+            write(0, 6, 1) = 0
+            clock(3) = 3
+            commit(0) = 0
+            stamp(0) = 2
+            clock(3) = 3
             """);
     }
 
@@ -260,6 +356,16 @@ public final class WriteEdgeTest {
             commit(0) = 0
             committed(1) = 3
             """);
+        Quotes.promise(7, sentence, "a lesser write stamp in the way stays", """
+            begin(0) = 0
+            begin(1) = 1
+            begin(1) = 2
+            begin(1) = 3
+            write(0, 3, 1) = 0
+            write(3, 3, 2) = -5
+            commit(0) = 0
+            committed(0) = 1
+            """);
         Quotes.promise(7, sentence, "until it has ended", """
             begin(0) = 0
             begin(1) = 1
@@ -279,16 +385,6 @@ public final class WriteEdgeTest {
             tickAll(41)
             write(1, 3, 2) = 0
             state(0) = 3
-            """);
-        Quotes.promise(7, sentence, "the way back is gone too: the gateway takes in the owner's clock", """
-            begin(0) = 0
-            begin(1) = 1
-            write(0, 3, 1) = 0
-            clock(3) = 3
-            write(1, 3, 2) = -5
-            clock(0) = 5
-            clock(3) = 6
-            clock(1) = 7
             """);
     }
 
@@ -321,6 +417,18 @@ public final class WriteEdgeTest {
             write(0, 3, 2) = 0
             stamp(1) = 1
             state(1) = 1
+            """);
+        Quotes.promise(7, sentence, "at stamp 0: not at the stamp of the writer, where that is above", """
+            tick(0, 5) = 0
+            begin(0) = 0
+            begin(1) = 1
+            write(1, 3, 1) = 0
+            write(0, 3, 2) = 0
+            stamp(0) = 5W+1
+            stamp(1) = 1
+            commit(1) = 1
+            commit(1) = 0
+            committed(0) = 1
             """);
         Quotes.promise(7, sentence, "at stamp 0: its read stamp becomes the write stamp, where that is above", """
             begin(0) = 0
@@ -391,12 +499,12 @@ public final class WriteEdgeTest {
 
     private static void sixteenVersions() {
         String sentence = "Then, has the key 16 versions: -7.";
-        Quotes.promise(7, sentence, "15 are not yet 16", Quotes.times(15, ONE_MORE_VERSION_OF_KEY_7) + """
+        Quotes.promise(7, sentence, "15 are not yet 16", versionsOfKey7(15, 0) + """
             versions(7) = 15
             begin(1) = 0
             write(0, 7, 1) = 0
             """);
-        String full = Quotes.times(16, ONE_MORE_VERSION_OF_KEY_7);
+        String full = versionsOfKey7(16, 0);
         Quotes.promise(7, sentence, "16 are", full + """
             versions(7) = 16
             begin(1) = 0
@@ -421,13 +529,12 @@ public final class WriteEdgeTest {
             commit(0) = 0
             committed(16) = 81
             """);
-        Quotes.promise(7, sentence, "the way there and back is gone", full + """
-            begin(1) = 0
-            clock(1) = 81
-            clock(3) = 81
+        Quotes.promise(7, sentence, "the write stamp stays, where all versions are above it", "begin(2) = 0\n"
+            + versionsOfKey7(16, 1) + """
+            versions(7) = 16
             write(0, 7, 1) = -7
-            clock(3) = 83
-            clock(1) = 84
+            commit(0) = 0
+            committed(16) = 1
             """);
         Quotes.promise(7, sentence, "of this key: others can be written", full + """
             begin(1) = 0
@@ -452,7 +559,7 @@ public final class WriteEdgeTest {
 
     private static void sixteenthVersionByLookingUp() {
         String sentence = "Then, has the key 16 versions: -7.";
-        String fifteenAndAnIntent = Quotes.times(15, ONE_MORE_VERSION_OF_KEY_7) + """
+        String fifteenAndAnIntent = versionsOfKey7(15, 0) + """
             begin(1) = 0
             begin(1) = 1
             write(1, 7, 200) = 0
