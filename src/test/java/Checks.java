@@ -106,7 +106,8 @@ final class Checks {
         return answers;
     }
 
-    private static long answer(HlcStore store, String call) {
+    /** The answer to a call that is written as in a script. */
+    static long answer(HlcStore store, String call) {
         long[] a = arguments(call);
         String name = call.substring(0, call.indexOf('('));
         switch (name + "/" + a.length) {

@@ -7,6 +7,7 @@ import java.nio.file.Files;
 import java.nio.file.Path;
 import java.util.Set;
 import java.util.TreeSet;
+import java.util.regex.Matcher;
 import java.util.regex.Pattern;
 
 /** The public face, and those rules of LANGUAGE.md that a program can look at. */
@@ -18,6 +19,7 @@ public final class FaceTest {
 
     public static void main(String[] args) throws IOException {
         publicFace();
+        theDocumentSaysThisFace();
         nothingElseIsVisible();
         noPrivateMethodBearsAPublicName();
         staticStateIsConstant();
@@ -54,6 +56,24 @@ public final class FaceTest {
         isTrue("one constructor", constructors.length == 1);
         isTrue("it is public", Modifier.isPublic(constructors[0].getModifiers()));
         isTrue("it takes nothing", constructors[0].getParameterCount() == 0);
+    }
+
+    /** So that the list above is not only what was once typed off. */
+    private static void theDocumentSaysThisFace() {
+        String section = Quotes.section("The public face");
+        if (section.isEmpty()) {
+            return;
+        }
+        Set<String> said = new TreeSet<>();
+        Matcher method = Pattern.compile("public (int|long) (\\w+)\\(([^)]*)\\);").matcher(section);
+        while (method.find()) {
+            String types = method.group(3).replaceAll("(\\w+) \\w+", "$1");
+            said.add(method.group(1) + " " + method.group(2) + "(" + types + ")");
+        }
+        isTrue("the document's face is " + said + ", tested is " + new TreeSet<>(FACE), said.equals(FACE));
+        isTrue("the document names nothing else", section.split(";", -1).length - 1 == said.size() + 1);
+        isTrue("but the class and its constructor",
+            section.contains("public final class HlcStore {") && section.contains("public HlcStore();"));
     }
 
     private static void nothingElseIsVisible() {
@@ -113,6 +133,12 @@ public final class FaceTest {
         isTrue("no method reference", !code.contains("::"));
         isTrue("no text joined by +, for there are no texts", !code.contains("\""));
         isTrue("no endless loop", !code.contains("while") && !code.contains("for (;;)"));
+        isTrue("objects are made by constructors alone", !withoutConstructors(code).contains("new "));
         isTrue("plain characters", code.chars().allMatch(c -> c < 128));
+    }
+
+    /** All calls of a run live in one room, so a call must not make objects. */
+    private static String withoutConstructors(String code) {
+        return code.replaceAll("(?m)^( +)(?:public|private) [A-Z]\\w*\\([^)]*\\) \\{\\n(?s:.*?)^\\1\\}$", "");
     }
 }

@@ -29,6 +29,11 @@ final class Quotes {
         Checks.run("promise " + number + " by the terms, \"" + sentence + "\": " + edge, script);
     }
 
+    /** What the document says below the heading, with every gap one space; empty where there is no document. */
+    static String section(String heading) {
+        return SECTIONS.getOrDefault(heading, "");
+    }
+
     /** The row once for each number that is not 0 .. size - 1 and might be taken for one; # is the number. */
     static String outside(int size, String row) {
         StringBuilder rows = new StringBuilder();
